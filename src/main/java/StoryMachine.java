@@ -179,7 +179,7 @@ public final class StoryMachine {
         }
     }
 
-    /** The stack and the routines that stand open; number 0 is the story itself. */
+    /** The stack and the routines that stand open; number 0 is the story itself, which never closes. */
     private static final class Routines {
         static final int MOST_WORDS = 48;
         static final int MOST_CALLED = 10;
@@ -263,12 +263,6 @@ public final class StoryMachine {
             System.arraycopy(newLocals, 0, locals, depth * MOST_LOCALS, count);
         }
 
-        void demandCalled() {
-            if (depth == 0) {
-                throw new IllegalArgumentException();
-            }
-        }
-
         int behind() {
             return behinds[depth];
         }
@@ -278,7 +272,9 @@ public final class StoryMachine {
         }
 
         void close() {
-            demandCalled();
+            if (depth == 0) {
+                throw new IllegalArgumentException();
+            }
             height = floors[depth];
             depth--;
         }
@@ -611,7 +607,6 @@ public final class StoryMachine {
 
         void clear() {
             typedLength = 0;
-            enteredLength = 0;
             isEntered = false;
         }
 
@@ -1176,7 +1171,6 @@ public final class StoryMachine {
         }
 
         private void returnWith(int value) {
-            routines.demandCalled();
             int result = routines.result();
             next = routines.behind();
             routines.close();

@@ -8,6 +8,7 @@ public final class CallTest {
         routineNothing();
         badRoutines();
         tooManyIsSeenFirst();
+        localsOfTenRoutines();
         returning();
         fullStackAtReturn();
         Check.end();
@@ -48,6 +49,10 @@ public final class CallTest {
         Check.same("run", story.machine.run(2), 5);
         Check.same("gives 0", story.global(Story.G0), 0);
         Check.same("no routine", story.machine.routines(), 0);
+        Story pushed = Story.of(CALL, 127, 0, Story.TOP, Story.END);
+        Check.same("to the stack", pushed.machine.run(2), 5);
+        Check.same("a word", pushed.machine.stack(-1), 1);
+        Check.same("0", pushed.machine.stack(0), 0);
     }
 
     private static void badRoutines() {
@@ -77,6 +82,25 @@ public final class CallTest {
         story.machine.run(10);
         story.word(Story.GLOBALS, 0);
         Check.same("x 0 calls nothing", story.machine.run(2), 5);
+    }
+
+    private static void localsOfTenRoutines() {
+        // Each has fifteen locals; the first is one more than that of the one that called it.
+        Story story = routine(15).bytes(Story.ROUTINE + 31, 149, 1, CALL, Story.types("bv"), AT, 1, 15, 155, 77);
+        story.begin(CALL, 95, AT, 0, 16);
+        Check.same("ten", story.machine.run(19), 0);
+        Check.same("ten", story.machine.routines(), 10);
+        Check.same("the first", story.machine.local(1), 9);
+        Check.same("the last", story.machine.local(15), 114);
+        Check.same("rises", story.machine.run(1), 0);
+        story.bytes(Story.ROUTINE + 33, 155, 77);
+        for (int depth = 9; depth >= 1; depth--) {
+            Check.same("returns", story.machine.run(1), 0);
+            Check.same("its place", story.machine.place(), Story.ROUTINE + 38);
+            Check.same("its first", story.machine.local(1), depth);
+            Check.same("its last is what was given", story.machine.local(15), 77);
+            Check.same("the one before", story.machine.local(14), 113);
+        }
     }
 
     private static void returning() {

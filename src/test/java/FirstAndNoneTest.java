@@ -52,6 +52,15 @@ public final class FirstAndNoneTest {
         returns("x", 0x1234, 139, 0x12, 0x34);
         returns("the top of the stack", 6, 232, 127, 5, 232, 127, 6, Story.RETURN_TOP);
         returns("1 with words on the stack", 1, 232, 127, 5, 232, 127, 6, Story.RETURN_1);
+        int[] last = {Story.RETURN_1, Story.RETURN_0, Story.RETURN_TOP};
+        for (int operation : last) {
+            Story story = new Story().bytes(Story.ROUTINE, 0, 232, 127, 5, 140, 1, 88).bytes(511, operation);
+            story.begin(224, 63, 0, Story.ROUTINE / 2, Story.G0, Story.END);
+            int behind = Story.ROUTINE + 7;
+            story.word(Story.ROUTINE + 5, 511 - behind + 2);
+            Check.same("the last byte returns", story.machine.run(5), 5);
+            Check.same("value", story.global(Story.G0), operation == Story.RETURN_TOP ? 5 : Story.RETURN_0 - operation);
+        }
         Story empty = new Story().bytes(Story.ROUTINE, 0, Story.RETURN_TOP);
         empty.begin(232, 127, 77, 224, 63, 0, Story.ROUTINE / 2, Story.G0);
         Check.same("the top, which it does not have", empty.machine.run(9), 2);

@@ -70,12 +70,16 @@ public final class InstructionTest {
 
     private static void operationsThatAreNotThere() {
         for (int operation : new int[] {0, 25, 26, 27, 28, 29, 30, 31}) {
-            Check.same("SECOND " + operation, Story.of(operation, 1, 1, Story.G0).machine.run(1), 1);
-            Check.same("SECOND " + operation, Story.of(192 + operation, 95, 1, 1, Story.G0).machine.run(1), 1);
+            int[] behind = {1, 1, Story.G0, 64 + 2, Story.END};
+            Story two = new Story().bytes(Story.CODE + 1, behind).begin(operation);
+            Check.same("SECOND " + operation, two.machine.run(1), 1);
+            Story typed = new Story().bytes(Story.CODE + 2, behind).begin(192 + operation, 95);
+            Check.same("SECOND " + operation, typed.machine.run(1), 1);
         }
         Check.same("FIRST 8", Story.of(136, 0, 1, Story.G0).machine.run(1), 1);
         for (int operation : new int[] {7, 12, 13, 14, 15}) {
             Check.same("NONE " + operation, Story.of(176 + operation, 195, 195).machine.run(1), 1);
+            Check.same("NONE " + operation, Story.of(176 + operation, Story.types("v"), 0).machine.run(1), 1);
         }
         for (int operation = 10; operation < 32; operation++) {
             Check.same("MANY " + operation, Story.of(224 + operation, 85, 1, 1, 1, 1, 16).machine.run(1), 1);

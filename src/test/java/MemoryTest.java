@@ -27,6 +27,12 @@ public final class MemoryTest {
         Story first = Story.giving(15, 4, 0);
         Check.same("a word of the head", first.machine.run(2), 5);
         Check.same("it", first.global(Story.G0), Story.CODE);
+        Story lowest = Story.giving(15, 0, 0).word(0, 0x8142);
+        Check.same("the first word", lowest.machine.run(2), 5);
+        Check.same("it", lowest.global(Story.G0), 0x8142);
+        Story lowestByte = Story.giving(16, 0, 0).bytes(0, 200);
+        Check.same("the first byte", lowestByte.machine.run(2), 5);
+        Check.same("it", lowestByte.global(Story.G0), 200);
         Story last = Story.giving(15, 508, 1).word(510, 0x8142);
         Check.same("the last word", last.machine.run(2), 5);
         Check.same("it", last.global(Story.G0), 0x8142);

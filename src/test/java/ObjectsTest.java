@@ -88,6 +88,9 @@ public final class ObjectsTest {
         Story other = new Story().bytes(place(1), 255, 255, 255, 254).begin(10, 1, 31, 195, Story.END,
                 13, Story.G0, 1, Story.END);
         Check.same("has not", other.asked(), 0);
+        Story first = new Story().bytes(place(1), 127, 255, 255, 255).begin(10, 1, 0, 195, Story.END,
+                13, Story.G0, 1, Story.END);
+        Check.same("has not the first", first.asked(), 0);
         for (int operation = 10; operation <= 12; operation++) {
             Check.same("32", Story.of(operation, 1, 32, 195).machine.run(1), 1);
             Check.same("31", Story.of(operation, 1, 31, 64 + 2).machine.run(1), 0);

@@ -69,12 +69,18 @@ public final class PropertiesTest {
         due(BEHIND, 2, 31, 0);
         bad(BEHIND, 2, 1);
         bad(BEHIND, 2, 52);
+        Story odd = story().bytes(LIST, 31).begin(BEHIND, 2, 0, Story.G0, Story.END);
+        Check.same("the first one is 31", odd.machine.run(2), 5);
+        Check.same("31", odd.global(Story.G0), 31);
         Story none = story().bytes(LIST, 0).begin(BEHIND, 2, 0, Story.G0, Story.END);
         Check.same("without properties", none.machine.run(2), 5);
         Check.same("0", none.global(Story.G0), 0);
     }
 
     private static void lengths() {
+        Story full = story().bytes(LIST, 32).begin(148, LIST + 1, Story.G0, Story.END);
+        Check.same("number 0 of two bytes", full.machine.run(2), 5);
+        Check.same("2", full.global(Story.G0), 2);
         int[][] rows = {{LIST + 1, 1}, {LIST + 3, 2}, {LIST + 6, 8}, {LIST + 15, 3}};
         for (int[] row : rows) {
             Story story = story().begin(148, row[0], Story.G0, Story.END);
@@ -100,6 +106,9 @@ public final class PropertiesTest {
         Check.same("a word", two.wordAt(LIST + 3), 0xFEDC);
         Check.same("of three bytes", set(2, 31, 1).machine.run(1), 1);
         Check.same("of eight bytes", set(2, 9, 1).machine.run(1), 1);
+        Story few = story().begin(227, Story.types("bb"), 2, 5);
+        Check.same("becomes nothing", few.machine.run(1), 1);
+        Check.same("it stays", few.wordAt(LIST + 3), 0x8142);
         Check.same("it has none", set(2, 1, 1).machine.run(1), 1);
         Check.same("object 0", set(0, 5, 1).machine.run(1), 1);
         Check.same("object 21", set(21, 5, 1).machine.run(1), 1);

@@ -7,6 +7,7 @@ public final class ReadTest {
     public static void main(String[] args) {
         characters();
         words();
+        readTwice();
         separators();
         entries();
         lettersOfWords();
@@ -47,8 +48,8 @@ public final class ReadTest {
 
     private static void characters() {
         Story story = story();
-        ends(story, "Take THE Az[@`{ 9~");
-        text(story, "take the az[@`{ 9~");
+        ends(story, "Take THE AZaz[@`{ 9~");
+        text(story, "take the azaz[@`{ 9~");
         Check.same("the byte at x stays", story.machine.peek(TEXT), 30);
         Story cut = story().bytes(TEXT, 4);
         ends(cut, "lamp oil");
@@ -94,6 +95,23 @@ public final class ReadTest {
         Check.same("spaces alone", spaces.machine.peek(WORDS + 1), 0);
     }
 
+    private static void readTwice() {
+        Story story = story();
+        story.bytes(Story.CODE + 6, 140, 255, 249);
+        story.line("a b c");
+        Check.same("first", story.machine.run(2), 0);
+        Check.same("three", story.machine.peek(WORDS + 1), 3);
+        story.line("de");
+        Check.same("second", story.machine.run(1), 0);
+        Check.same("one", story.machine.peek(WORDS + 1), 1);
+        word(story, 0, 0, 2, 1);
+        text(story, "de");
+        story.bytes(Story.CODE, 228, Story.types("w"), TEXT / 256, TEXT % 256).line("f");
+        Check.same("back", story.machine.run(1), 0);
+        Check.same("too few numbers behind one that had enough", story.machine.run(1), 1);
+        text(story, "de");
+    }
+
     private static void separators() {
         Story story = story();
         ends(story, "a,bc..d ,");
@@ -105,6 +123,9 @@ public final class ReadTest {
         Story other = story();
         ends(other, "a!b");
         Check.same("! is none", other.machine.peek(WORDS + 1), 1);
+        Story count = story().word(6, 100).bytes(100, 97).bytes(198, 6);
+        ends(count, "bab");
+        Check.same("how many there are is none", count.machine.peek(WORDS + 1), 1);
         Story many = story().bytes(WORDS, 24);
         many.line("........................");
         Check.same("24 words do not fit behind 440", many.machine.run(2), 1);

@@ -8,6 +8,7 @@ public final class SaveTest {
         bringsBackMemoryAndStack();
         goesOnBehindTheSave();
         bringsBackRoutines();
+        bringsBackWhatWasCalledOver();
         aSaveThatReturns();
         theLastOneCounts();
         whatStays();
@@ -77,6 +78,30 @@ public final class SaveTest {
         Check.same("returns where it was called", story.machine.place(), Story.CODE + 7);
         Check.same("given again", story.global(Story.G0), 1);
         Check.same("the story's word is left", story.machine.stack(-1), 1);
+    }
+
+    private static void bringsBackWhatWasCalledOver() {
+        // Saves in a routine with a word of its own, returns; then the story calls another in its place.
+        Story story = new Story().bytes(Story.ROUTINE, 1, 0, 3, 232, 127, 8, Story.SAVE, 192 + 2, Story.RETURN_TOP);
+        story.bytes(Story.FREE, 0, 232, 127, 9, 232, 127, 9, Story.RESTORE, 192);
+        story.begin(232, 127, 6, 232, 127, 7, CALL, 127, AT, Story.G0, Story.TOP_GOES, 232, 127, 5, 232, 127, 4,
+                232, 127, 3, CALL, 127, Story.FREE / 2, Story.G1, Story.END);
+        Check.same("save, return, and call the other", story.machine.run(13), 0);
+        Check.same("its locals", story.machine.local(0), 0);
+        Check.same("six words", story.machine.stack(-1), 6);
+        Check.same("restore", story.machine.run(1), 0);
+        Check.same("a local", story.machine.local(0), 1);
+        Check.same("its value", story.machine.local(1), 3);
+        int[] due = {8, 7, 6};
+        Check.same("three words", story.machine.stack(-1), due.length);
+        for (int k = 0; k < due.length; k++) {
+            Check.same("word " + k, story.machine.stack(k), due[k]);
+        }
+        Check.same("returns", story.machine.run(1), 0);
+        Check.same("behind its call", story.machine.place(), Story.CODE + 10);
+        Check.same("to its global", story.global(Story.G0), 8);
+        Check.same("not to the other's", story.global(Story.G1), 0);
+        Check.same("two words", story.machine.stack(-1), 2);
     }
 
     private static void aSaveThatReturns() {

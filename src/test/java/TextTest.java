@@ -24,6 +24,8 @@ public final class TextTest {
         due("abc", 6, 7, 8, 5, 6, 2);
         due("a", 6, 4);
         due("", 5, 5, 5);
+        due("   ", 0, 0, 0);
+        due("zzz a", 31, 31, 31, 0, 6, 5);
         aShiftIsOfOneTextAlone();
         whereTextStands();
         whatWasPutOutStays();
