@@ -24,11 +24,15 @@ public final class AnyCallsTest {
 
     private static StoryMachine filled(Random random) {
         StoryMachine x = new StoryMachine();
-        for (int place = 0; place < 512; place++) {
-            int kind = random.nextInt(4);
-            int value = kind == 0 ? random.nextInt(256) : kind == 1 ? random.nextInt(24)
-                    : kind == 2 ? STARTS[random.nextInt(STARTS.length)] : 0;
-            x.poke(place, value, 1);
+        for (int place = 0; place < 512; place += 8) {
+            long bytes = 0;
+            for (int i = 0; i < 8; i++) {
+                int kind = random.nextInt(4);
+                int value = kind == 0 ? random.nextInt(256) : kind == 1 ? random.nextInt(24)
+                        : kind == 2 ? STARTS[random.nextInt(STARTS.length)] : 0;
+                bytes = bytes << 8 | value;
+            }
+            x.poke(place, bytes, 8);
         }
         for (int place = 4; place <= 12; place += 2) {
             x.poke(place, random.nextInt(place == 12 ? 700 : 520), 2);
@@ -62,17 +66,23 @@ public final class AnyCallsTest {
         int height = x.stack(-1);
         Check.isTrue(what + ": height", height >= 0 && height <= 48);
         for (int k = 0; k < height; k++) {
-            Check.isTrue(what + ": word", x.stack(k) >= 0 && x.stack(k) <= 65535);
+            isIn(what + ": word", x.stack(k), 65535);
         }
-        for (int k = 0; k < Math.min(64, x.output(-1)); k++) {
-            Check.isTrue(what + ": character", x.output(k) >= 0 && x.output(k) <= 255);
+        int kept = Math.min(64, x.output(-1));
+        for (int k = 0; k < kept; k++) {
+            isIn(what + ": character", x.output(k), 255);
         }
+        isIn(what + ": locals", x.local(0), 15);
         for (int k = 1; k <= 15; k++) {
-            Check.isTrue(what + ": local", x.local(k) >= 0 && x.local(k) <= 65535);
+            isIn(what + ": local", x.local(k), 65535);
         }
-        for (int place = 0; place < 512; place++) {
-            Check.isTrue(what + ": byte", x.peek(place) >= 0 && x.peek(place) <= 255);
+        isIn(what + ": routines", x.routines(), 10);
+        for (int place = 0; place < 512; place += 3) {
+            isIn(what + ": byte", x.peek(place), 255);
         }
-        Check.isTrue(what + ": routines", x.routines() >= 0 && x.routines() <= 10);
+    }
+
+    private static void isIn(String what, int answer, int highest) {
+        Check.isTrue(what + " " + answer, answer >= 0 && answer <= highest);
     }
 }

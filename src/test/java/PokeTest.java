@@ -29,7 +29,7 @@ public final class PokeTest {
         for (int n : new int[] {0, -1, 9, Integer.MIN_VALUE, Integer.MAX_VALUE}) {
             Check.refused("n " + n, IllegalArgumentException.class, () -> x.poke(0, -1, n));
         }
-        for (int place = 0; place < 512; place++) {
+        for (int place = 0; place < 300; place++) {
             Check.same("nothing was written at " + place, x.peek(place), 0);
         }
         for (int n = 1; n <= 8; n++) {

@@ -48,9 +48,15 @@ final class Story {
         return this;
     }
 
+    /** In few calls, since an object is good for 512 of them. */
     Story bytes(int place, int... values) {
-        for (int i = 0; i < values.length; i++) {
-            machine.poke(place + i, values[i], 1);
+        for (int i = 0; i < values.length; i += 8) {
+            int n = Math.min(8, values.length - i);
+            long packed = 0;
+            for (int j = i; j < i + n; j++) {
+                packed = packed << 8 | values[j] & 255;
+            }
+            machine.poke(place + i, packed, n);
         }
         return this;
     }
