@@ -11,6 +11,7 @@ public final class CallEdgeTest extends Edge {
         theRoutineMustBeThere();
         localsThatAreNotAllThere();
         theFirstLocalsBecomeTheNumbers();
+        tenRoutinesWithFifteenLocals();
         wordsOfTheRoutineGoThenTheValueIsWritten();
         aFullStackWhenItReturns();
         aValueThatCannotBeWritten();
@@ -158,6 +159,37 @@ public final class CallEdgeTest extends Edge {
         locals("one for none", 0, calls[1]);
     }
 
+    /** Each of them counts its first local up, calls itself with it, and gives what comes back to its last one. */
+    private static Story fifteenEach(int routines) {
+        Story story = new Story().bytes(ROUTINE, 15).word(ROUTINE + 1 + 2 * 13, 514);
+        story.bytes(ROUTINE + 31, join(new int[] {149, 1}, many(0, "wv", AT, 1, 15), first(11, 77)));
+        story.begin(many(0, "wb", AT, 0, G0));
+        Check.same(routines + " are called", story.machine.run(2 * routines - 1), 0);
+        return story;
+    }
+
+    private static void tenRoutinesWithFifteenLocals() {
+        done("the tenth rises", 2, () -> fifteenEach(10), due -> due.locals[0] = 10);
+        done("the ninth calls the tenth", 0, () -> {
+            Story story = fifteenEach(9);
+            Check.same("it rises", story.machine.run(1), 0);
+            return story;
+        }, due -> {
+            due.routines = 10;
+            due.place = ROUTINE + 31;
+        });
+        Story story = fifteenEach(10).bytes(ROUTINE + 31, first(11, 77));
+        for (int left = 9; left >= 1; left--) {
+            Check.same("returns", story.machine.run(1), 0);
+            Check.same("routines", story.machine.routines(), left);
+            Check.same("how many locals", story.machine.local(0), 15);
+            Check.same("its first one", story.machine.local(1), left);
+            Check.same("its last but one", story.machine.local(14), 514);
+            Check.same("its last one", story.machine.local(15), 77);
+            story.bytes(story.machine.place(), first(11, 77));
+        }
+    }
+
     /** The story has some words, called a routine, and that has pushed some. */
     private static Story called(int storyWords, int routineWords, int result, int... code) {
         Story story = withWords(new Story(), storyWords, call(AT, result)).bytes(ROUTINE, 1, 1, 1);
@@ -183,6 +215,10 @@ public final class CallEdgeTest extends Edge {
             done("to a global, " + words, 0, () -> called(2, words, G0, Story.RETURN_1), due -> {
                 returned(due, words);
                 due.global(G0, 1).place = CODE + 5;
+            });
+            done("0 to a global, " + words, 0, () -> called(2, words, G0, Story.RETURN_0).word(GLOBALS, 9), due -> {
+                returned(due, words);
+                due.global(G0, 0).place = CODE + 5;
             });
             done("to the stack, " + words, 0, () -> called(2, words, TOP, first(11, 65535)), due -> {
                 returned(due, words);

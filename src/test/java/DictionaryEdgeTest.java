@@ -103,6 +103,12 @@ public final class DictionaryEdgeTest extends Edge {
     private static void theFirstEntryThatHasThese() {
         found("two", AT + 10, "a", () -> entries(6, b(), a(), a()));
         found("its other bytes are of no matter", AT + 4, "a", () -> entries(6, a()).bytes(AT + 8, 255, 255));
+        done("of two words", 6, () -> reading(entries(6, b(), a()), "a b"), due -> read(due, "a b")
+                .bytes(WORDS + 1, 2).word(WORDS + 2, AT + 10).bytes(WORDS + 4, 1, 1)
+                .word(WORDS + 6, AT + 4).bytes(WORDS + 8, 1, 3));
+        done("of a longer word and a shorter one", 6, () -> reading(entries(6, b()), "abcdefg b"),
+                due -> read(due, "abcdefg b")
+                        .bytes(WORDS + 1, 2, 0, 0, 7, 1, Story.high(AT + 4), Story.low(AT + 4), 1, 9));
         found("the first word alone", 0, "a", () -> entries(6, Story.text(6, 5, 5, 5, 5, 6)));
         found("the second word alone", 0, "a", () -> entries(6, Story.text(7, 5, 5, 5, 5, 5)));
     }

@@ -56,6 +56,8 @@ public final class FormEdgeTest extends Edge {
         done("128, is the word 256 0", new int[] {128, 1, 0, BY_TRUE}, Story::new, NOTHING);
         done("180, nothing", new int[] {180}, Story::new, NOTHING);
         bad("191, an operation that is not there", new int[] {191, 16, 17, TOP});
+        bad("191 has no byte of types", new int[] {191, Story.types("v"), TOP});
+        trouble("192 has one", STACK, new int[] {192, Story.types("v"), TOP}, Story::new, NOTHING);
     }
 
     /** "b from 192: a byte of types, two bits each from the highest on (0, 1, 2 as before ..)" */
@@ -168,21 +170,26 @@ public final class FormEdgeTest extends Edge {
         String kinds = "bbb";
         for (int operation = 0; operation < needed.length; operation++) {
             for (int numbers = 0; numbers < needed[operation]; numbers++) {
-                int[] code = many(operation, kinds.substring(0, numbers), 200, 0, 0, 0);
-                trouble("MANY " + operation + " with " + numbers, BAD, () -> new Story().begin(code).line("a"), NOTHING);
+                int[] code = operation == 3 ? many(3, kinds.substring(0, numbers), 1, 5, 0, 0)
+                        : many(operation, kinds.substring(0, numbers), 200, 0, 0, 0);
+                trouble("MANY " + operation + " with " + numbers, BAD, () -> property5().begin(code).line("a"), NOTHING);
             }
         }
         done("MANY 0 with one", many(0, "b", 0, G1), () -> new Story().word(GLOBALS + 2, 9), due -> due.global(G1, 0));
         done("MANY 1 with three", many(1, "bbb", 200, 1, 7), Story::new, due -> due.word(202, 7));
         done("MANY 2 with three", many(2, "bbb", 200, 1, 7), Story::new, due -> due.bytes(201, 7));
-        done("MANY 3 with three", many(3, "bbb", 1, 5, 7), () -> new Story().word(Story.OBJECTS + 21, FREE)
-                .bytes(FREE, 0, 5, 1, 0), due -> due.bytes(FREE + 2, 7));
+        done("MANY 3 with three", many(3, "bbb", 1, 5, 7), FormEdgeTest::property5, due -> due.bytes(FREE + 2, 7));
         done("MANY 4 with two", 4, () -> new Story().begin(many(4, "bb", 200, 220)).line("a"), NOTHING);
         done("MANY 5 with one", many(5, "b", 65), Story::new, due -> due.puts("A"));
         done("MANY 6 with one", many(6, "b", 65), Story::new, due -> due.puts("65"));
         done("MANY 7 with one", many(7, "b", 200, TOP), Story::new, due -> due.push(8));
         done("MANY 8 with one", many(8, "b", 65), Story::new, due -> due.push(65));
         done("MANY 9 with one", 3, () -> withWords(new Story(), 1, many(9, "b", G0)), due -> due.pop().global(G0, 1));
+    }
+
+    /** Object 1 has the property 5, a byte. */
+    private static Story property5() {
+        return new Story().word(Story.OBJECTS + 21, FREE).bytes(FREE, 0, 5, 1, 0);
     }
 
     /** "(what it has too many is of no matter)" */

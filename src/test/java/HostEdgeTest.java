@@ -392,7 +392,10 @@ public final class HostEdgeTest extends Edge {
         Check.refused("a word that went", IndexOutOfBoundsException.class, () -> gone.stack(1));
     }
 
-    /** Promise 12: "Local 1 .. 15 ..; 0 where there are not so many. k = 0: how many there are. IndexOutOfBoundsException: k is not 0 .. 15." */
+    /**
+     * Promise 12: "Local 1 .. 15 of the routine, 0 .. 65535; 0 where there are not so many. k = 0: how many there are.
+     * IndexOutOfBoundsException: k is not 0 .. 15."
+     */
     private static void localsThatAreThere() {
         for (int locals : new int[] {0, 1, 14, 15}) {
             StoryMachine x = withLocals(new Story(), locals).machine;

@@ -18,6 +18,7 @@ public final class ObjectEdgeTest extends Edge {
         attributesThatCannotBeWritten();
         noneIsNoSibling();
         noneIsNoChild();
+        noneIsNoParent();
         aNameOfNoWordsIsNothing();
         namesThatAreNotAllThere();
         Check.end();
@@ -162,6 +163,14 @@ public final class ObjectEdgeTest extends Edge {
                 due -> due.global(G0, 1).place += BRANCHED);
         trouble("it is given before it returns", BAD, first(2, 2, G0, 192), () -> objects().bytes(place(2) + CHILD, 1),
                 due -> due.global(G0, 1));
+    }
+
+    /** "3 g its parent", "(0 for none)" */
+    private static void noneIsNoParent() {
+        done("none", first(3, 2, G0), () -> objects().word(GLOBALS, 9), due -> due.global(G0, 0));
+        done("1", first(3, 2, G0), () -> objects().bytes(place(2) + PARENT, 1), due -> due.global(G0, 1));
+        done("255, though it is no object", first(3, 2, G0), () -> objects().bytes(place(2) + PARENT, 255),
+                due -> due.global(G0, 255));
     }
 
     /** "its name is put out (no words: nothing)" */

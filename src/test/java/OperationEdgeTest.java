@@ -7,6 +7,7 @@ public final class OperationEdgeTest extends Edge {
         fallsAndAsks();
         risesAndAsks();
         bitsThatAreTheSame();
+        bitsOfEitherAndOfBoth();
         divisionBy0();
         quotientsAsJavas();
         remaindersAsJavas();
@@ -60,6 +61,9 @@ public final class OperationEdgeTest extends Edge {
         counts(4, 5, 3, 4, false);
         counts(4, 1, 0, 0, false);
         counts(4, 0, 0, 65535, true);
+        counts(4, 0, 65535, 65535, false);
+        counts(4, 65535, 65535, 65534, true);
+        counts(4, 5, 32768, 4, false);
         counts(4, 32769, 32769, 32768, true);
         counts(4, 32768, 32767, 32767, false);
         counts(4, 32768, 0, 32767, false);
@@ -72,6 +76,9 @@ public final class OperationEdgeTest extends Edge {
         counts(5, 5, 7, 6, false);
         counts(5, 65535, 0, 0, false);
         counts(5, 65535, 65535, 0, true);
+        counts(5, 65534, 65535, 65535, false);
+        counts(5, 65534, 65534, 65535, true);
+        counts(5, 5, 32768, 6, true);
         counts(5, 32766, 32766, 32767, true);
         counts(5, 32767, 32768, 32768, false);
         counts(5, 32767, 0, 32768, false);
@@ -86,6 +93,15 @@ public final class OperationEdgeTest extends Edge {
         asks("the highest is not there", false, second(7, "ww", 32767, 32768, BY_TRUE), Story::new);
         asks("one of two", false, second(7, "ww", 1, 3, BY_TRUE), Story::new);
         asks("two of one", true, second(7, "ww", 3, 1, BY_TRUE), Story::new);
+    }
+
+    /** "8 g x | y  9 g x & y" */
+    private static void bitsOfEitherAndOfBoth() {
+        int[][] rows = {{0, 0}, {0, 65535}, {65535, 0}, {65535, 65535}, {32768, 1}, {0x0F0F, 0x00FF}, {3, 5}};
+        for (int[] row : rows) {
+            gives(8, row[0], row[1], row[0] | row[1]);
+            gives(9, row[0], row[1], row[0] & row[1]);
+        }
     }
 
     /** "by 0: DIVISION" */

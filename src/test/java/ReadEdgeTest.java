@@ -19,6 +19,7 @@ public final class ReadEdgeTest extends Edge {
         charactersThatCannotBeWritten();
         wordsThatCannotBeWritten();
         theByteAtYIsReadBehindTheCharacters();
+        aShorterLineBehindALongerOne();
         tooFewNumbers();
         Check.end();
     }
@@ -157,11 +158,6 @@ public final class ReadEdgeTest extends Edge {
         most(4, "a b c", 1, 1, 1, 3, 1, 5);
         most(255, "a b c", 1, 1, 1, 3, 1, 5);
         most(255, "");
-        int[] dots = new int[2 * 24];
-        for (int i = 0; i < 24; i++) {
-            dots[2 * i] = 1;
-            dots[2 * i + 1] = 1 + i;
-        }
         done("24 words", 4, () -> reading(room().bytes(200, 30).bytes(100, 24), "........................",
                 many(4, "bb", 200, 100)), due -> {
                     due.bytes(101, 24);
@@ -253,6 +249,14 @@ public final class ReadEdgeTest extends Edge {
                 read(TEXT, 510)), due -> text(due, "ab").bytes(511, 0));
         done("it is the 0 behind the characters", 6, () -> reading(room(), "ab", read(TEXT, TEXT + 3)),
                 due -> text(due, "ab").bytes(TEXT + 4, 0));
+    }
+
+    private static void aShorterLineBehindALongerOne() {
+        done("the second line", 6, () -> {
+            Story story = reading(room(), "ab cd ef", join(read(TEXT, WORDS), read(TEXT, WORDS)));
+            Check.same("the first line", story.machine.run(1), 0);
+            return story.line("g.");
+        }, due -> words(text(due, "g."), 1, 1, 1, 2));
     }
 
     /** "an operation that .. has too few numbers, is bad (what it has too many is of no matter)" */

@@ -8,6 +8,7 @@ public final class SaveEdgeTest extends Edge {
         aSaveInTrouble();
         whatComesBack();
         aFullStackAndTenRoutinesComeBack();
+        whatWasWrittenOverComesBack();
         whatWasPutAsideLast();
         whatStays();
         restoreReadsItsBranch();
@@ -126,6 +127,33 @@ public final class SaveEdgeTest extends Edge {
             due.global(G1, 0).bytes(CODE + 4, 0, 0).routines = 10;
             due.place = ROUTINE + 3;
         });
+    }
+
+    /** A routine saves and returns; then other words and another routine stand where its own stood. */
+    private static void whatWasWrittenOverComesBack() {
+        int[] saves = join(many(8, "b", 60), none(5, 64 + 2), none(8));
+        int[] other = join(new int[] {0}, many(8, "b", 80), many(8, "b", 81), none(6, 192));
+        Story story = new Story().bytes(ROUTINE, 2, 0, 31, 0, 32).bytes(ROUTINE + 5, saves).bytes(FREE, other);
+        story.begin(join(many(8, "b", 50), many(8, "b", 51), many(0, "b", ROUTINE / 2, G0), none(9),
+                many(8, "b", 70), many(8, "b", 71), many(0, "b", FREE / 2, G1)));
+        Check.same("it saves, returns, and calls the other one", story.machine.run(12), 0);
+        Check.same("five words", story.machine.stack(-1), 5);
+        Check.same("no locals", story.machine.local(0), 0);
+        Check.same("restores", story.machine.run(1), 0);
+        int[] words = {60, 51, 50};
+        Check.same("three words", story.machine.stack(-1), words.length);
+        for (int k = 0; k < words.length; k++) {
+            Check.same("word " + k, story.machine.stack(k), words[k]);
+        }
+        Check.same("two locals", story.machine.local(0), 2);
+        Check.same("the first one", story.machine.local(1), 31);
+        Check.same("the second one", story.machine.local(2), 32);
+        Check.same("returns", story.machine.run(1), 0);
+        Check.same("behind its own call", story.machine.place(), CODE + 6 + 4);
+        Check.same("to its own global", story.global(G0), 60);
+        Check.same("not to the other's", story.global(G1), 0);
+        Check.same("its words went, the story's did not", story.machine.stack(-1), 2);
+        Check.same("the story's", story.machine.stack(0), 51);
     }
 
     /** "RESTORE brings back what was put aside last, and goes on there" */

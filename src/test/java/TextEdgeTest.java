@@ -37,6 +37,8 @@ public final class TextEdgeTest extends Edge {
                 due -> due.puts("abc"));
         done("in the second", first(7, 400), () -> new Story().word(400, abc).word(402, 32768 + abc),
                 due -> due.puts("abcabc"));
+        done("bit 14 is not it", first(7, 400), () -> new Story().word(400, 32767).word(402, 32768 + abc),
+                due -> due.puts("zzzabc"));
         done("in the third", first(7, 400), () -> new Story().word(400, abc).word(402, abc).word(404, 32768 + abc),
                 due -> due.puts("abcabcabc"));
     }
@@ -183,6 +185,18 @@ public final class TextEdgeTest extends Edge {
             due.puts("ab\r").global(G1, 1).routines = 0;
             due.place = CODE + 4;
         });
+        done("it returns once", 0, () -> {
+            int[] branches = {144, 0, 192 + 2};
+            Story story = withRoutines(new Story(), 3, join(branches, text));
+            Check.same("it branches before that", story.machine.run(1), 0);
+            return story;
+        }, due -> {
+            due.puts("ab\r").global(G1, 1).routines = 2;
+            due.place = ROUTINE + 5;
+        });
+        Story aside = withRoutines(new Story(), 1, text).bytes(CODE + 4, Story.RESTORE, 192);
+        Check.same("it returns, and nothing was put aside", aside.machine.run(2), 0);
+        Check.same("so it is false", aside.machine.place(), CODE + 6);
         trouble("in the story", BAD, text, Story::new, due -> due.puts("ab\r"));
         trouble("no end: no new line, and it does not return", BAD, () -> {
             Story story = withRoutines(new Story(), 1, first(12, 509 - (ROUTINE + 4) + 2));

@@ -54,7 +54,10 @@ public final class TreeEdgeTest extends Edge {
         done("nothing can be written", take(5), () -> family().word(12, 0), NOTHING);
     }
 
-    /** "its sibling comes in its place, as its parent's child or as the sibling of the one before; then its parent becomes 0, its sibling 0" */
+    /**
+     * "its sibling comes in its place, as its parent's child or as the sibling of the one before ..; then its parent
+     * becomes 0, its sibling 0"
+     */
     private static void itsSiblingComesInItsPlace() {
         done("the first child", take(2), TreeEdgeTest::family, due -> {
             object(object(due, 1, 0, 0, 3), 2, 0, 0, 0);
@@ -63,6 +66,8 @@ public final class TreeEdgeTest extends Edge {
             object(object(due, 2, 1, 4, 0), 3, 0, 0, 20);
         });
         done("the last one", take(4), TreeEdgeTest::family, due -> object(object(due, 3, 1, 0, 20), 4, 0, 0, 0));
+        done("its name is not put out", take(2), () -> family().word(place(2) + 7, FREE).bytes(FREE, 1)
+                .bytes(FREE + 1, Story.text(6)), due -> object(object(due, 1, 0, 0, 3), 2, 0, 0, 0));
         done("an only child", take(20), TreeEdgeTest::family, due -> object(object(due, 3, 1, 4, 0), 20, 0, 0, 0));
     }
 
