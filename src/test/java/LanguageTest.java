@@ -81,7 +81,7 @@ public final class LanguageTest extends TreePathScanner<Void, Void> {
         JavaCompiler compiler = ToolProvider.getSystemJavaCompiler();
         try (StandardJavaFileManager files = compiler.getStandardFileManager(null, null, null)) {
             JavacTask task = (JavacTask) compiler.getTask(null, files, null,
-                    Arrays.asList("-proc:none", "--release", "17"), null, files.getJavaFileObjects(PROGRAM));
+                    Arrays.asList("-proc:none"), null, files.getJavaFileObjects(PROGRAM));
             CompilationUnitTree unit = task.parse().iterator().next();
             task.analyze();
             new LanguageTest(Trees.instance(task), unit).holds();
